@@ -221,7 +221,7 @@ public final class JointPlans {
         private int height;
         private int walls;
 
-        private void renew(int newWidth, int newHeight) {
+        private void clear(int newWidth, int newHeight) {
             width = newWidth;
             height = newHeight;
             walls = 0;
@@ -312,7 +312,7 @@ public final class JointPlans {
         }
 
         private void renew(int width, int height) {
-            floor.renew(width, height);
+            floor.clear(width, height);
             Arrays.fill(starts, NONE);
             Arrays.fill(ends, NONE);
         }
@@ -451,9 +451,9 @@ public final class JointPlans {
             int first = state % CELLS;
             int second = state / CELLS;
             for (int i = 0; i < MOVES; i++) {
-                int a = moved(0, first, i);
+                int a = next(0, first, i);
                 for (int j = 0; j < MOVES && a != NONE; j++) {
-                    int b = moved(1, second, j);
+                    int b = next(1, second, j);
                     if (b != NONE && stepCost(a, b, first, second) == cost && fits(a, b, first, second)) {
                         reach(a + CELLS * b, level);
                     }
@@ -495,9 +495,9 @@ public final class JointPlans {
             int first = state % CELLS;
             int second = state / CELLS;
             for (int i = 0; i < MOVES; i++) {
-                int a = moved(0, first, i);
+                int a = next(0, first, i);
                 for (int j = 0; j < MOVES && a != NONE; j++) {
-                    int b = moved(1, second, j);
+                    int b = next(1, second, j);
                     if (b != NONE && fits(first, second, a, b) && keeps(state, a, b)) {
                         return a + CELLS * b;
                     }
@@ -511,7 +511,7 @@ public final class JointPlans {
             return rest != NONE && rest + stepCost(state % CELLS, state / CELLS, a, b) == read(left, state);
         }
 
-        private int moved(int robot, int cell, int move) {
+        private int next(int robot, int cell, int move) {
             if (robot < robots) {
                 return scene.floor.moved(cell, move);
             }

@@ -74,27 +74,23 @@ public final class GridTest {
         plans.grid(2, 2);
         Check.due("swaps stay as they are", plans.swap(true), false);
         plans.seed(1);
-        plans.grid(3, 3);
-        plans.wall(0, 1, true);
-        plans.wall(2, 1, true);
-        plans.wall(1, 2, true);
-        plans.start(0, 1, 0);
-        plans.end(0, 1, 0);
-        plans.start(1, 0, 0);
-        plans.end(1, 2, 0);
-        plans.start(2, 0, 2);
-        plans.end(2, 0, 2);
-        Check.due("the first restart", plans.solve(1), 4);
-        plans.grid(3, 3);
-        plans.wall(0, 1, true);
-        plans.wall(2, 1, true);
-        plans.wall(1, 2, true);
-        plans.start(0, 1, 0);
-        plans.end(0, 1, 0);
-        plans.start(1, 0, 0);
-        plans.end(1, 2, 0);
-        plans.start(2, 0, 2);
-        plans.end(2, 0, 2);
+        putOneInTheWay(plans);
+        Check.due("the first restart from seed 1", plans.solve(1), 4);
+        putOneInTheWay(plans);
         Check.due("the seed goes on over grids", plans.solve(1), -1);
+    }
+
+    /** There is a plan only by orders in which robot 1 comes before robot 0, as 1, 2, 0, the first one from seed 1. */
+    private static void putOneInTheWay(JointPlans plans) {
+        plans.grid(3, 3);
+        plans.wall(0, 1, true);
+        plans.wall(2, 1, true);
+        plans.wall(1, 2, true);
+        plans.start(0, 1, 0);
+        plans.end(0, 1, 0);
+        plans.start(1, 0, 0);
+        plans.end(1, 2, 0);
+        plans.start(2, 0, 2);
+        plans.end(2, 0, 2);
     }
 }

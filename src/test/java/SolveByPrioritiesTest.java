@@ -136,7 +136,7 @@ public final class SolveByPrioritiesTest {
         for (int robots = 3; robots <= 4; robots++) {
             JointPlans plans = Scenes.drawn(robots, "abcd", "12.4");
             for (int restarts : new int[] {-1, 6, Integer.MIN_VALUE, Integer.MAX_VALUE}) {
-                Check.thrown("too many, and an end is missing", IllegalArgumentException.class, () -> plans.solve(restarts));
+                Check.thrown("too many, an end missing", IllegalArgumentException.class, () -> plans.solve(restarts));
             }
             Check.thrown("an end is missing", IllegalStateException.class, () -> plans.solve(5));
         }

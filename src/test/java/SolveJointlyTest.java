@@ -146,7 +146,7 @@ public final class SolveJointlyTest {
     private static void wrongCalls() {
         JointPlans plans = Scenes.drawn(2, "a.1", "b..");
         for (int restarts : new int[] {-1, 6, Integer.MIN_VALUE, Integer.MAX_VALUE}) {
-            Check.thrown("too many, and an end is missing", IllegalArgumentException.class, () -> plans.solve(restarts));
+            Check.thrown("too many, an end missing", IllegalArgumentException.class, () -> plans.solve(restarts));
         }
         Check.thrown("an end is missing", IllegalStateException.class, () -> plans.solve(0));
         plans.end(1, 2, 1);

@@ -63,7 +63,8 @@ public final class SwapAndSeedTest {
         for (int robots = 0; robots <= 4; robots++) {
             JointPlans plans = new JointPlans(robots);
             for (int seed : new int[] {-1, -2, Integer.MIN_VALUE}) {
-                Check.thrown("seed(" + seed + ")", IllegalArgumentException.class, () -> { plans.seed(seed); return 0; });
+                String name = "seed(" + seed + ")";
+                Check.thrown(name, IllegalArgumentException.class, () -> { plans.seed(seed); return 0; });
             }
             for (int seed : new int[] {0, 1, Integer.MAX_VALUE}) {
                 Check.due("seed(" + seed + ")", Check.answer(() -> { plans.seed(seed); return "done"; }), "done");
@@ -80,7 +81,10 @@ public final class SwapAndSeedTest {
         return plans;
     }
 
-    /** By hand, from seed 1: x / 65536 is 16838, 5758 (order 1, 2, 0); 10113, 17515 (0, 2, 1); 31051, 5627 (0, 1, 2). */
+    /**
+     * By hand, from seed 1: x / 65536 is 16838, 5758 (order 1, 2, 0); 10113, 17515 (0, 2, 1); 31051, 5627 (0, 1, 2);
+     * 23010, 7419 (2, 0, 1), which would be 1, 0, 2 if an order went on from the one before it.
+     */
     private static void seedGoesOn() {
         JointPlans plans = oneInTheWay();
         Check.due("no restart", plans.solve(0), -1);
@@ -91,11 +95,14 @@ public final class SwapAndSeedTest {
         Check.due("order 0, 2, 1", plans.solve(1), -1);
         Check.due("order 0, 1, 2", plans.solve(1), -1);
         plans.seed(1);
+        Check.due("order 1, 2, 0 again", plans.solve(1), 4);
+        Check.due("each order is made anew from 0, 1, 2", plans.solve(3), -1);
+        plans.seed(1);
         Check.thrown("too many", IllegalArgumentException.class, () -> plans.solve(6));
         Check.due("no seed was used", plans.solve(1), 4);
         plans.seed(1);
         Check.due("none is used without restarts", plans.solve(0), -1);
-        Check.due("order 1, 2, 0 again", plans.solve(5), 4);
+        Check.due("order 1, 2, 0 of five", plans.solve(5), 4);
         plans.seed(1);
         Check.thrown("below 0", IllegalArgumentException.class, () -> { plans.seed(-5); return 0; });
         Check.due("the seed stays", plans.solve(1), 4);
