@@ -446,7 +446,7 @@ public final class JointPlans {
             }
         }
 
-        /** Reaches the states from which a step at this cost leads here: moves go back as they go forth. */
+        /** Reaches the states from which a step at this cost leads here: steps go back just as they go forth. */
         private void reachBefore(int state, int cost, int level) {
             int first = state % CELLS;
             int second = state / CELLS;
@@ -454,7 +454,7 @@ public final class JointPlans {
                 int a = next(0, first, i);
                 for (int j = 0; j < MOVES && a != NONE; j++) {
                     int b = next(1, second, j);
-                    if (b != NONE && stepCost(a, b, first, second) == cost && fits(a, b, first, second)) {
+                    if (b != NONE && stepCost(a, b, first, second) == cost && fits(first, second, a, b)) {
                         reach(a + CELLS * b, level);
                     }
                 }
