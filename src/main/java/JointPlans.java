@@ -25,6 +25,7 @@ public final class JointPlans {
     public JointPlans(int robots) {
         this.robots = Math.max(0, Math.min(MOST_ROBOTS, robots));
         scene = new Scene(this.robots);
+        scene.renew(1, 1);
         shuffle = new Shuffle(this.robots);
         planner = this.robots <= MOST_JOINTLY ? new JointSearch(scene) : new PrioritySearch(scene, shuffle);
         plan = new Plan(this.robots, mostSteps(this.robots));
@@ -308,7 +309,6 @@ public final class JointPlans {
             this.robots = robots;
             starts = new int[robots];
             ends = new int[robots];
-            renew(1, 1);
         }
 
         private void renew(int width, int height) {
@@ -433,16 +433,11 @@ public final class JointPlans {
                     return;
                 }
                 int newest = reachedCount;
-                reachFrom(newer, newest, 1, level);
-                reachFrom(older, newer, 2, level);
+                for (int i = older; i < newest; i++) {
+                    reachBefore(read(reached, i), i < newer ? 2 : 1, level);
+                }
                 older = newer;
                 newer = newest;
-            }
-        }
-
-        private void reachFrom(int begin, int stop, int cost, int level) {
-            for (int i = begin; i < stop; i++) {
-                reachBefore(read(reached, i), cost, level);
             }
         }
 
@@ -545,17 +540,14 @@ public final class JointPlans {
 
         public void make(Plan plan, int restarts) {
             shuffle.reset();
-            improve(plan);
-            for (int i = 0; i < restarts; i++) {
-                shuffle.draw();
-                improve(plan);
-            }
-        }
-
-        private void improve(Plan plan) {
-            tryOrder();
-            if (trial.isMade() && (!plan.isMade() || trial.cost < plan.cost)) {
-                plan.copy(trial);
+            for (int i = 0; i <= restarts; i++) {
+                if (i > 0) {
+                    shuffle.draw();
+                }
+                tryOrder();
+                if (trial.isMade() && (!plan.isMade() || trial.cost < plan.cost)) {
+                    plan.copy(trial);
+                }
             }
         }
 
@@ -564,32 +556,30 @@ public final class JointPlans {
             trial.drop();
             int sum = 0;
             for (int place = 0; place < scene.robots; place++) {
-                int cost = route(read(shuffle.order, place));
+                int robot = read(shuffle.order, place);
+                int start = read(scene.starts, robot);
+                int end = read(scene.ends, robot);
+                measure(end);
+                int cost = read(left, start);
                 if (cost == NONE) {
                     return;
                 }
                 sum += cost;
+                walk(robot, start, end);
+                occupy(robot);
             }
             trial.cost = sum;
             trial.steps = stepsOfTrial();
         }
 
-        /** Leads one robot round those before it: its cost, or NONE. */
-        private int route(int robot) {
-            int end = read(scene.ends, robot);
-            int cell = read(scene.starts, robot);
-            measure(end);
-            int cost = read(left, cell);
-            if (cost == NONE) {
-                return NONE;
-            }
+        /** Leads one robot round those before it, by what is measured for its end. */
+        private void walk(int robot, int start, int end) {
+            int cell = start;
             trial.put(robot, 0, cell);
             for (int t = 0; t < HORIZON; t++) {
                 cell = follow(t, cell, end);
                 trial.put(robot, t + 1, cell);
             }
-            occupy(robot);
-            return cost;
         }
 
         private void occupy(int robot) {
@@ -616,7 +606,7 @@ public final class JointPlans {
                 return NONE;
             }
             for (int move = 0; move < MOVES; move++) {
-                int cost = costBy(t, cell, move, end);
+                int cost = costBy(t, cell, scene.floor.moved(cell, move), end);
                 if (cost != NONE && (least == NONE || cost < least)) {
                     least = cost;
                 }
@@ -624,27 +614,24 @@ public final class JointPlans {
             return least;
         }
 
-        /** The least cost from a time and cell on with this move first, or NONE. */
-        private int costBy(int t, int cell, int move, int end) {
-            int there = scene.floor.moved(cell, move);
+        /** The least cost from a time and cell on if the next cell is there, or NONE. */
+        private int costBy(int t, int cell, int there, int end) {
             int rest = there == NONE ? NONE : read(left, (t + 1) * CELLS + there);
-            if (rest == NONE || isBarred(t, cell, there)) {
+            if (rest == NONE) {
                 return NONE;
             }
-            return rest + ownCost(cell, there, end);
-        }
-
-        private boolean isBarred(int t, int cell, int there) {
             int other = read(taken, t * CELLS + there);
-            return scene.swapsBarred && other != NONE && read(taken, (t + 1) * CELLS + cell) == other;
+            boolean change = other != NONE && read(taken, (t + 1) * CELLS + cell) == other;
+            return change && scene.swapsBarred ? NONE : rest + ownCost(cell, there, end);
         }
 
         /** The cell behind the lowest move that keeps the cost least. */
         private int follow(int t, int cell, int end) {
             int least = read(left, t * CELLS + cell);
             for (int move = 0; move < MOVES; move++) {
-                if (costBy(t, cell, move, end) == least) {
-                    return scene.floor.moved(cell, move);
+                int there = scene.floor.moved(cell, move);
+                if (there != NONE && costBy(t, cell, there, end) == least) {
+                    return there;
                 }
             }
             return cell;
