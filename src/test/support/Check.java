@@ -8,8 +8,19 @@ final class Check {
 
     private static int wrong = 0;
     private static int seen = 0;
+    private static String beside = "";
 
     private Check() {
+    }
+
+    /** A text that stands before what is printed from now on. */
+    static void beside(String text) {
+        beside = text;
+    }
+
+    /** How many answers have been looked at. */
+    static int seen() {
+        return seen;
     }
 
     static void due(String what, Object got, Object want) {
@@ -17,13 +28,21 @@ final class Check {
         if (!Objects.equals(got, want)) {
             wrong++;
             if (wrong <= 50) {
-                System.out.println(what + " answered " + got + ", due is " + want);
+                System.out.println(beside + what + " answered " + got + ", due is " + want);
             }
         }
     }
 
     static void thrown(String what, Class<?> want, Call call) {
         due(what, answer(call), "throws " + want.getName());
+    }
+
+    static void badArgument(String what, Call call) {
+        thrown(what, IllegalArgumentException.class, call);
+    }
+
+    static void badState(String what, Call call) {
+        thrown(what, IllegalStateException.class, call);
     }
 
     /** What a call answers; exceptions are told by the very class that is thrown, not by one above it. */
