@@ -602,7 +602,7 @@ public final class JointPlans {
 
         private int leastFrom(int t, int cell, int end) {
             int least = NONE;
-            if (read(taken, t * CELLS + cell) != NONE) {
+            if (scene.floor.moved(cell, STAY) == NONE || read(taken, t * CELLS + cell) != NONE) {
                 return NONE;
             }
             for (int move = 0; move < MOVES; move++) {

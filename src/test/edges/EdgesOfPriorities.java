@@ -109,6 +109,10 @@ final class EdgesOfPriorities {
         plans.swap(false);
         Check.due("not barred", plans.solve(0), 2);
         Check.due("in one step", plans.last(), 1);
+        JointPlans late = longWay(3, "10", "00");
+        late.start(2, 0, 0);
+        late.end(2, 1, 0);
+        Check.due("robot 2 can't change cells with robot 1 in the last step, at time 40", late.solve(0), -1);
         JointPlans ring = Scenes.ways(2, 2, "00>10", "10>11", "11>00");
         Check.due("three that go round change no cells", ring.solve(0), 4);
         JointPlans all = Scenes.ways(2, 2, "00>01", "01>11", "11>10", "10>00");

@@ -245,6 +245,11 @@ final class EdgesOfTerms {
             Check.due("shut in: alone", plans.alone(0), -1);
             Check.due("shut in: solve", plans.solve(0), -1);
         }
+        for (int robots = 1; robots <= 4; robots++) {
+            JointPlans plans = Scenes.drawn(robots, "#a1#", ".BC.", "#.D#");
+            Check.due("walls at the corners", plans.solve(0), 1);
+            Check.due("its cells", Scenes.path(plans, 0), "10 20");
+        }
         for (int[] side : sides) {
             JointPlans plans = Scenes.drawn(1, ".#.", "#a#", ".#.");
             plans.end(0, 0, 0);
