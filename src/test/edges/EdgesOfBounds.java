@@ -5,7 +5,8 @@ final class EdgesOfBounds {
 
     static void run() {
         Sentences.section("Promise 12: alone");
-        Sentences.holds("The moves that a robot alone needs from its start to its end at least;", EdgesOfBounds::needs);
+        Sentences.holds("The moves that a robot alone needs from its start to its end at least;",
+            EdgesOfBounds::needs);
         Sentences.holds("-1 if it can't come there.", EdgesOfBounds::canNotCome);
         Sentences.holds("IllegalArgumentException;", EdgesOfBounds::noSuchRobot);
         Sentences.holds("IllegalStateException: it has no start or end.", EdgesOfBounds::noStartOrEnd);

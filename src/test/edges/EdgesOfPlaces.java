@@ -21,7 +21,8 @@ final class EdgesOfPlaces {
 
         Sentences.section("Promise 4: start");
         Places starts = new Places(true);
-        Sentences.holds("A robot's start (instead of an earlier one; a plan stays): true;", starts::insteadOfAnEarlierOne);
+        Sentences.holds("A robot's start (instead of an earlier one; a plan stays): true;",
+            starts::insteadOfAnEarlierOne);
         Sentences.holds("false, and it stays, if another one starts there.", starts::takenByAnother);
         Sentences.holds("IllegalArgumentException: no such robot or cell;", starts::noSuchRobotOrCell);
         Sentences.holds("IllegalStateException: a wall is there.", starts::wallIsThere);

@@ -24,7 +24,8 @@ final class EdgesOfPlans {
         Sentences.holds("IllegalStateException: there is no plan.", EdgesOfPlans::atWithoutPlan);
 
         Sentences.section("Promise 11: last");
-        Sentences.holds("How many steps the plan has: behind them all robots stay at their ends.", EdgesOfPlans::steps);
+        Sentences.holds("How many steps the plan has: behind them all robots stay at their ends.",
+            EdgesOfPlans::steps);
         Sentences.holds("IllegalStateException: there is no plan.", EdgesOfPlans::lastWithoutPlan);
     }
 

@@ -13,7 +13,8 @@ final class EdgesOfPriorities {
 
     static void run() {
         Sentences.section("Terms");
-        Sentences.holds("BY PRIORITIES, for more: the robots one behind the other.", EdgesOfPriorities::oneBehindTheOther);
+        Sentences.holds("BY PRIORITIES, for more: the robots one behind the other.",
+            EdgesOfPriorities::oneBehindTheOther);
         Sentences.holds("Each moves through the times 0 .. 40 from its start, is at its end at time 40,",
             EdgesOfPriorities::upToTimeForty);
         Sentences.holds("is at no time at the cell at which a robot before it is,", EdgesOfPriorities::atNoTime);

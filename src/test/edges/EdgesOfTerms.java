@@ -25,7 +25,8 @@ final class EdgesOfTerms {
         Sentences.holds("such that no two are at one cell behind it;", EdgesOfTerms::noTwoAtOneCell);
         Sentences.holds("if SWAPS are barred (at first) no two change their cells.", EdgesOfTerms::swaps);
         Sentences.holds("COST of a step: how many robots do not stay at their ends in it.", EdgesOfTerms::costOfAStep);
-        Sentences.holds("A PLAN goes from all starts to all ends; its cost is that of its steps.", EdgesOfTerms::wholePlans);
+        Sentences.holds("A PLAN goes from all starts to all ends; its cost is that of its steps.",
+            EdgesOfTerms::wholePlans);
         Sentences.holds("JOINTLY, for two robots at most (and none: cost 0, no step):", EdgesOfTerms::jointlyNone);
         Sentences.holds("a plan at the least cost;", EdgesOfTerms::leastCost);
         Sentences.holds("of such ones each step in turn is the first that keeps the cost least:",
