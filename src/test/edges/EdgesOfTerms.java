@@ -1,4 +1,4 @@
-/** Boundary cases of 'What it is' and of the terms up to JOINTLY. */
+/** Boundary cases of the terms up to JOINTLY. */
 final class EdgesOfTerms {
     private static final int[] FAR = {Integer.MIN_VALUE, -7, -1, 7, Integer.MAX_VALUE};
 
@@ -6,11 +6,6 @@ final class EdgesOfTerms {
     }
 
     static void run() {
-        Sentences.section("What it is");
-        Sentences.holds("at least cost exactly for two at most, else one robot behind the other by priorities",
-            EdgesOfTerms::exactForTwoAtMost);
-        Sentences.holds("An object is used for at most 512 calls after it has been made", EdgesOfTerms::call512);
-
         Sentences.section("Terms");
         Sentences.holds("ROBOTS are 0, 1, .. as many as it was made for.", EdgesOfTerms::robots);
         Sentences.holds("The GRID has a width and a height of 1 .. 6 cells", EdgesOfTerms::sides);
@@ -32,34 +27,6 @@ final class EdgesOfTerms {
         Sentences.holds("of such ones each step in turn is the first that keeps the cost least:",
             EdgesOfTerms::firstOfTheLeast);
         Sentences.holds("by the move of robot 0, then by that of robot 1.", EdgesOfTerms::robot0Then1);
-    }
-
-    private static void exactForTwoAtMost() {
-        for (int robots = 0; robots <= 4; robots++) {
-            JointPlans plans = Scenes.drawn(robots, "abcd", "1234");
-            Check.due("cost", plans.solve(0), robots);
-            Check.due("exact for " + robots, plans.exact(), robots <= 2);
-        }
-    }
-
-    private static void call512() {
-        for (int robots = 0; robots <= 4; robots++) {
-            JointPlans plans = new JointPlans(robots);
-            int calls = 0;
-            plans.grid(6, 6);
-            calls++;
-            for (int robot = 0; robot < robots; robot++) {
-                plans.start(robot, robot, 0);
-                plans.end(robot, 5 - robot, 5);
-                calls += 2;
-            }
-            int first = plans.solve(0);
-            calls++;
-            for (; calls < 511; calls++) {
-                Check.due("solve, call " + (calls + 1), plans.solve(0), first);
-            }
-            Check.due("the 512th call", plans.count(4), first);
-        }
     }
 
     private static void robots() {

@@ -2,6 +2,7 @@ import java.lang.reflect.Constructor;
 import java.lang.reflect.Member;
 import java.lang.reflect.Method;
 import java.lang.reflect.Modifier;
+import java.util.ArrayList;
 import java.util.Arrays;
 import java.util.List;
 import java.util.TreeSet;
@@ -41,6 +42,7 @@ public final class FaceTest {
             }
         }
         Check.due("methods", methods, new TreeSet<>(Arrays.asList(METHODS)));
+        Check.due("the document's face", documentFace(), faceOf(METHODS));
         for (String method : METHODS) {
             String name = method.replaceAll("^\\w+ (\\w+)\\(.*", "$1");
             Check.due("a private method " + name, hidden.contains(name), false);
@@ -56,6 +58,26 @@ public final class FaceTest {
             Check.due("class " + inner.getName() + " is static and hidden", fits, true);
         }
         Check.finish();
+    }
+
+    /** What the document declares, without the names of parameters. */
+    private static List<String> documentFace() {
+        String text = Sentences.text("The public face");
+        List<String> all = new ArrayList<>();
+        for (String part : text.substring(text.indexOf('{') + 1, text.lastIndexOf('}')).split(";")) {
+            if (!part.isBlank()) {
+                all.add(part.trim().replaceAll("(int|boolean) \\w+(?=[,)])", "$1"));
+            }
+        }
+        return all;
+    }
+
+    private static List<String> faceOf(String[] methods) {
+        List<String> all = new ArrayList<>(List.of("public JointPlans(int)"));
+        for (String method : methods) {
+            all.add("public " + method);
+        }
+        return all;
     }
 
     private static String text(Method m) {
